@@ -1,6 +1,9 @@
-/** What the tests share: comparing answers, writing texts, and ending with 1 when an answer was wrong. */
+import java.util.List;
+
+/** Compares answers with those that are due, tells each wrong one with its sentence, and ends with 1 if one was. */
 final class Check {
     private static int wrong = 0;
+    private static String sentence = "";
 
     private Check() {
     }
@@ -9,10 +12,20 @@ final class Check {
         void run();
     }
 
+    /** A sentence of the document, and the test that fails when it does not hold. */
+    static void sentence(String words, Call test) {
+        sentence = words;
+        try {
+            test.run();
+        } catch (RuntimeException e) {
+            report("a call threw " + e);
+        }
+        sentence = "";
+    }
+
     static void due(String what, long got, long want) {
         if (got != want) {
-            wrong++;
-            System.out.println(what + " answered " + got + ", due is " + want);
+            report(what + " answered " + got + ", due is " + want);
         }
     }
 
@@ -24,9 +37,19 @@ final class Check {
             got = e.getClass();
         }
         if (got != want) {
-            wrong++;
-            System.out.println(what + " threw " + got + ", due is " + want);
+            report(what + " threw " + got + ", due is " + want);
         }
+    }
+
+    /** Two views must be alike; the first line in which they differ is told. */
+    static void same(String what, List<String> got, List<String> want) {
+        for (int i = 0; i < Math.min(got.size(), want.size()); i++) {
+            if (!got.get(i).equals(want.get(i))) {
+                report(what + ": " + got.get(i) + ", due is " + want.get(i));
+                return;
+            }
+        }
+        due(what + ": answers", got.size(), want.size());
     }
 
     static void finish() {
@@ -34,12 +57,6 @@ final class Check {
         if (wrong != 0) {
             System.exit(1);
         }
-    }
-
-    static ChartKnitter cast(int columns) {
-        ChartKnitter x = new ChartKnitter();
-        x.castOn(columns);
-        return x;
     }
 
     /** The eight bytes, the lowest first, of a text of up to eight characters. */
@@ -51,28 +68,8 @@ final class Check {
         return packed;
     }
 
-    static void write(ChartKnitter x, String text) {
-        for (int i = 0; i < text.length(); i += 8) {
-            x.write(pack(text.substring(i, Math.min(text.length(), i + 8))));
-        }
-    }
-
-    /** Wipes, writes and knits. */
-    static int knit(ChartKnitter x, String text, int carrier) {
-        x.wipe();
-        write(x, text);
-        return x.knit(carrier);
-    }
-
-    /** Knits rows by the carrier 0, each of which must be without a fault. */
-    static void rows(ChartKnitter x, String... texts) {
-        for (String text : texts) {
-            due("knit of " + text, knit(x, text, 0), 0);
-        }
-    }
-
-    static void fault(ChartKnitter x, String text, int carrier, int fault, int place) {
-        due("fault of '" + text + "'", knit(x, text, carrier), fault);
-        due("place of the fault of '" + text + "'", x.place(), place);
+    private static void report(String fault) {
+        wrong++;
+        System.out.println(sentence.isEmpty() ? fault : "\"" + sentence + "\": " + fault);
     }
 }

@@ -15,7 +15,8 @@ public final class FaceTest {
 
     public static void main(String[] args) {
         Class<?> face = ChartKnitter.class;
-        Check.due("public final", face.getModifiers() & (Modifier.PUBLIC | Modifier.FINAL), Modifier.PUBLIC | Modifier.FINAL);
+        int publicFinal = Modifier.PUBLIC | Modifier.FINAL;
+        Check.due("public final", face.getModifiers() & publicFinal, publicFinal);
         TreeSet<String> methods = new TreeSet<>();
         TreeSet<String> names = new TreeSet<>();
         for (Method method : face.getDeclaredMethods()) {

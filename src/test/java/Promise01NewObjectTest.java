@@ -1,26 +1,48 @@
-/** Promise 1: nothing is cast on, and the text is empty. */
+/** Promise 1: a new object. */
 public final class Promise01NewObjectTest {
     public static void main(String[] args) {
-        ChartKnitter x = new ChartKnitter();
-        for (int what = 0; what < 4; what++) {
-            Check.due("number(" + what + ")", x.number(what), 0);
-        }
-        Check.due("number(4)", x.number(4), -1);
-        Check.due("place()", x.place(), -1);
-        Check.due("live(0, 0)", x.live(0, 0), -1);
-        Check.due("bed(0)", x.bed(0), -1);
-        for (int carrier = -1; carrier <= 3; carrier++) {
-            Check.due("side(" + carrier + ")", x.side(carrier), -1);
-        }
-        Check.due("ravel()", x.ravel(), -1);
-        Check.due("wipe()", x.wipe(), 0);
-        Check.dueThrow("program(0, 0)", IndexOutOfBoundsException.class, () -> x.program(0, 0));
-        Check.dueThrow("program(1, 9)", IndexOutOfBoundsException.class, () -> x.program(1, 9));
-        Check.dueThrow("parent(0, 0)", IndexOutOfBoundsException.class, () -> x.parent(0, 0));
-        Check.dueThrow("loop(0, 0)", IndexOutOfBoundsException.class, () -> x.loop(0, 0));
-        Check.dueThrow("cross(1, 0)", IndexOutOfBoundsException.class, () -> x.cross(1, 0));
-        Check.dueThrow("knit(0)", IllegalStateException.class, () -> x.knit(0));
-        Check.dueThrow("knit(3)", IllegalStateException.class, () -> x.knit(3));
+        Check.sentence("Nothing is cast on: no cloth", Promise01NewObjectTest::noCloth);
+        Check.sentence("Nothing is cast on: no loops and no rows", Promise01NewObjectTest::noLoopsAndNoRows);
+        Check.sentence("Nothing is cast on: nothing to knit", Promise01NewObjectTest::nothingToKnit);
+        Check.sentence("an empty text", Promise01NewObjectTest::emptyText);
         Check.finish();
+    }
+
+    private static void noCloth() {
+        Piece piece = new Piece();
+        piece.dueNumbers(0, 0, 0, 0);
+        piece.dueSides(-1, -1, -1);
+        piece.dueBeds();
+        piece.dueStack(0);
+        piece.dueStack(15);
+        Check.due("ravel()", piece.ravel(), -1);
+        Check.due("place()", piece.place(), -1);
+    }
+
+    private static void noLoopsAndNoRows() {
+        Piece piece = new Piece();
+        piece.refuses("program(0, 0)", IndexOutOfBoundsException.class, x -> x.program(0, 0));
+        piece.refuses("program(1, 0)", IndexOutOfBoundsException.class, x -> x.program(1, 0));
+        piece.refuses("cross(1, 0)", IndexOutOfBoundsException.class, x -> x.cross(1, 0));
+        piece.refuses("parent(0, 0)", IndexOutOfBoundsException.class, x -> x.parent(0, 0));
+        piece.refuses("loop(0, 0)", IndexOutOfBoundsException.class, x -> x.loop(0, 0));
+    }
+
+    private static void nothingToKnit() {
+        Piece piece = new Piece();
+        piece.refusesToKnit(0, IllegalStateException.class);
+        Check.due("write(k)", piece.write("k"), 1);
+        piece.refusesToKnit(2, IllegalStateException.class);
+        piece.castOn(1);
+        Check.due("the first knit that can be", piece.knit(0), 0);
+    }
+
+    private static void emptyText() {
+        Check.due("wipe()", new Piece().wipe(), 0);
+        Check.due("write(0)", new Piece().write(0), 0);
+        Check.due("the first character", new Piece().write("k"), 1);
+        Piece piece = Piece.cast(1);
+        Check.due("an empty text is a fault", piece.knit(0), 1);
+        Check.due("at its beginning", piece.place(), 0);
     }
 }

