@@ -572,6 +572,15 @@ public final class ChartKnitter {
         final boolean[] late = new boolean[MOST_COLUMNS];
         final Stitch[] givers = new Stitch[MOST_COLUMNS];
 
+        Plan() {
+            // So that no reference in them is ever null.
+            Stitch none = new Stitch();
+            for (int column = 0; column < MOST_COLUMNS; column++) {
+                takers[column] = none;
+                givers[column] = none;
+            }
+        }
+
         /** Only for a chart which takes and gives no more than 16 columns. */
         void make(Chart chart) {
             columns = chart.taken;

@@ -4,6 +4,7 @@ public final class Promise05KnitTest {
 
     public static void main(String[] args) {
         Check.sentence("Knits the text as the next row by a carrier", Promise05KnitTest::nextRow);
+        Check.sentence("Knits the text .., and nothing of an earlier one", Promise05KnitTest::thisTextAlone);
         Check.sentence("0, and the text is empty", Promise05KnitTest::textIsEmpty);
         Check.sentence("otherwise the fault (the text stays)", Promise05KnitTest::textStays);
         Check.sentence("IllegalStateException: nothing was cast on", Promise05KnitTest::nothingCastOn);
@@ -20,6 +21,20 @@ public final class Promise05KnitTest {
             Check.due("row of the new loop", piece.loop(2 * row, 0), row);
             Check.due("its carrier", piece.loop(2 * row, 3), carriers[row - 1]);
         }
+    }
+
+    /** Longer texts, refused or knitted, come before shorter ones. */
+    private static void thisTextAlone() {
+        Piece piece = Piece.cast(3);
+        piece.fault("kkk<11", 0, 2, -1);
+        piece.rows("kkk");
+        piece.dueProgram(1, 0, 0, 0, 3, 0);
+        piece.dueNumbers(1, 3, 6, 0);
+        piece.rows("k<11", "c");
+        piece.dueProgram(3, 6, 3, 0, 1, 0);
+        piece.rows("xo", "k");
+        piece.dueProgram(5, 0, 0, 0, 1, 0);
+        piece.dueNumbers(5, 1, 12, 1);
     }
 
     private static void textIsEmpty() {

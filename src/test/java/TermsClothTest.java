@@ -3,6 +3,7 @@ public final class TermsClothTest {
     public static void main(String[] args) {
         Check.sentence("LOOPS are numbered 0, 1, .. in the order in which they are made", TermsClothTest::numbered);
         Check.sentence("300 at most", TermsClothTest::mostLoops);
+        Check.sentence("300 at most: dropped ones are loops too", TermsClothTest::mostLoopsWithDropped);
         Check.sentence("a BED (0 front, 1 back) and a CARRIER (0 .. 2)", TermsClothTest::bedsAndCarriers);
         Check.sentence("THE CLOTH has COLUMNS, 1 to 16: cast on", TermsClothTest::columnsCastOn);
         Check.sentence("THE CLOTH has COLUMNS, 1 to 16: knitted", TermsClothTest::columnsKnitted);
@@ -56,6 +57,19 @@ public final class TermsClothTest {
         Piece atOnce = loops288().rows(Piece.times(12, "p") + "mmmm");
         Check.due("loops", atOnce.number(2), 300);
         atOnce.dueLoop(299, 18, 11, 1, 0, 11);
+    }
+
+    private static void mostLoopsWithDropped() {
+        Piece piece = Piece.cast(16);
+        for (int row = 1; row <= 17; row++) {
+            piece.rows("xo" + Piece.times(15, "k"));
+        }
+        piece.dueNumbers(17, 16, 288, 17);
+        piece.fault(Piece.times(13, "k") + "mmm", 0, 8, -1);
+        piece.fault("xo" + Piece.times(12, "k") + "mmm", 0, 8, -1);
+        piece.rows("xo" + Piece.times(11, "k") + "mmmm");
+        piece.dueNumbers(18, 16, 300, 18);
+        piece.fault("xo" + Piece.times(15, "m"), 0, 8, -1);
     }
 
     private static void bedsAndCarriers() {
