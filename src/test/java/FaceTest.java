@@ -2,49 +2,94 @@ import java.lang.reflect.Constructor;
 import java.lang.reflect.Field;
 import java.lang.reflect.Method;
 import java.lang.reflect.Modifier;
+import java.util.ArrayList;
 import java.util.Arrays;
 import java.util.List;
 import java.util.TreeSet;
 
-/** The class has the members of the document's face and no others that can be seen from outside. */
+/** "The public face": the class has its members, and no others that can be seen from outside. */
 public final class FaceTest {
+    private static final String STATE = "IllegalStateException";
+    private static final String ARGUMENT = "IllegalArgumentException";
+    private static final String INDEX = "IndexOutOfBoundsException";
     private static final List<String> FACE = List.of(
-        "int bed(int)", "void castOn(int)", "int cross(int,int)", "int knit(int)", "int live(int,int)",
-        "int loop(int,int)", "int number(int)", "int parent(int,int)", "int place()", "int program(int,int)",
-        "int ravel()", "int side(int)", "int wipe()", "int write(long)");
+        "int bed(int) []", "void castOn(int) [" + ARGUMENT + "]", "int cross(int,int) [" + INDEX + "]",
+        "int knit(int) [" + STATE + ", " + ARGUMENT + "]", "int live(int,int) []",
+        "int loop(int,int) [" + INDEX + ", " + ARGUMENT + "]", "int number(int) []",
+        "int parent(int,int) [" + INDEX + "]", "int place() []",
+        "int program(int,int) [" + INDEX + ", " + ARGUMENT + "]", "int ravel() []", "int side(int) []",
+        "int wipe() []", "int write(long) []");
+
+    private static final Class<?> SEEN = ChartKnitter.class;
 
     public static void main(String[] args) {
-        Class<?> face = ChartKnitter.class;
+        Check.sentence("public final class ChartKnitter", FaceTest::type);
+        Check.sentence("public static final int NONE = -1", FaceTest::constant);
+        Check.sentence("public ChartKnitter()", FaceTest::constructor);
+        Check.sentence("the public methods, with what they throw", FaceTest::methods);
+        Check.finish();
+    }
+
+    /** What a method is declared to throw, in its order. */
+    static List<String> thrown(Method method) {
+        List<String> names = new ArrayList<>();
+        for (Class<?> type : method.getExceptionTypes()) {
+            names.add(type.getSimpleName());
+        }
+        return names;
+    }
+
+    private static void type() {
         int publicFinal = Modifier.PUBLIC | Modifier.FINAL;
-        Check.due("public final", face.getModifiers() & publicFinal, publicFinal);
-        TreeSet<String> methods = new TreeSet<>();
+        Check.due("public final", SEEN.getModifiers() & publicFinal, publicFinal);
+        Check.due("in no package", SEEN.getPackageName().length(), 0);
+        Check.due("of no other class", SEEN.getSuperclass() == Object.class ? 1 : 0, 1);
+        Check.due("interfaces", SEEN.getInterfaces().length, 0);
+    }
+
+    private static void constant() {
+        Check.due("NONE", ChartKnitter.NONE, -1);
+        for (Field field : SEEN.getDeclaredFields()) {
+            if (field.getName().equals("NONE")) {
+                int asDue = Modifier.PUBLIC | Modifier.STATIC | Modifier.FINAL;
+                Check.due("modifiers of NONE", field.getModifiers(), asDue);
+                Check.due("an int", field.getType() == int.class ? 1 : 0, 1);
+            } else {
+                Check.due("private " + field, Modifier.isPrivate(field.getModifiers()) ? 1 : 0, 1);
+            }
+        }
+    }
+
+    private static void constructor() {
+        Constructor<?>[] constructors = SEEN.getDeclaredConstructors();
+        Check.due("constructors", constructors.length, 1);
+        Check.due("its arguments", constructors[0].getParameterCount(), 0);
+        Check.due("public", Modifier.isPublic(constructors[0].getModifiers()) ? 1 : 0, 1);
+        Check.due("what it throws", constructors[0].getExceptionTypes().length, 0);
+    }
+
+    private static void methods() {
+        TreeSet<String> shapes = new TreeSet<>();
         TreeSet<String> names = new TreeSet<>();
-        for (Method method : face.getDeclaredMethods()) {
+        for (Method method : SEEN.getDeclaredMethods()) {
             if (!Modifier.isPrivate(method.getModifiers())) {
                 Check.due("public " + method, Modifier.isPublic(method.getModifiers()) ? 1 : 0, 1);
-                methods.add(shape(method));
+                Check.due("not static " + method, Modifier.isStatic(method.getModifiers()) ? 1 : 0, 0);
+                shapes.add(shape(method));
                 names.add(method.getName());
             }
         }
-        Check.due("methods " + methods, methods.equals(new TreeSet<>(FACE)) ? 1 : 0, 1);
-        for (Method method : face.getDeclaredMethods()) {
+        Check.same("methods", List.copyOf(shapes), List.copyOf(new TreeSet<>(FACE)));
+        for (Method method : SEEN.getDeclaredMethods()) {
             if (Modifier.isPrivate(method.getModifiers())) {
                 Check.due("private method with a public name: " + method, names.contains(method.getName()) ? 1 : 0, 0);
             }
         }
-        for (Field field : face.getDeclaredFields()) {
-            boolean constant = field.getName().equals("NONE");
-            Check.due("visibility of " + field, Modifier.isPrivate(field.getModifiers()) ? 1 : 0, constant ? 0 : 1);
-        }
-        Constructor<?>[] constructors = face.getDeclaredConstructors();
-        Check.due("constructors", constructors.length, 1);
-        Check.due("arguments of the constructor", constructors[0].getParameterCount(), 0);
-        Check.due("NONE", ChartKnitter.NONE, -1);
-        Check.finish();
     }
 
     private static String shape(Method method) {
         String[] types = Arrays.stream(method.getParameterTypes()).map(Class::getName).toArray(String[]::new);
-        return method.getReturnType().getName() + " " + method.getName() + "(" + String.join(",", types) + ")";
+        String call = method.getName() + "(" + String.join(",", types) + ")";
+        return method.getReturnType().getName() + " " + call + " " + thrown(method);
     }
 }

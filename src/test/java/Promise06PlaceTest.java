@@ -91,10 +91,18 @@ public final class Promise06PlaceTest {
         piece.bed(0);
         piece.side(0);
         Check.due("place() behind questions", piece.place(), 2);
+        Check.due("ravel()", piece.ravel(), 0);
+        Check.due("place() behind ravel()", piece.place(), 2);
+        Check.due("ravel() again", piece.ravel(), -1);
+        Check.due("place() behind ravel() of no row", piece.place(), 2);
         piece.castOn(2);
         Check.due("place() behind castOn()", piece.place(), 2);
         piece.write("k");
         Check.due("knit", piece.knit(0), 2);
         Check.due("place()", piece.place(), -1);
+        told(piece, "kz", 0, 1, 1);
+        told(piece, "kk", 0, 0, -1);
+        Check.due("ravel()", piece.ravel(), 0);
+        Check.due("a ravelled row was knitted without a fault", piece.place(), -1);
     }
 }

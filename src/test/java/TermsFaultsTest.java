@@ -201,6 +201,13 @@ public final class TermsFaultsTest {
         piece.fault("o>11ol", 0, 4, 5);
         piece.fault("xxxt", 0, 4, 3);
         piece.rows("mtkk");
+        // The row below has an even number now: the first stitch is that of the text, not the one that is made first.
+        Piece odd = stacks(4, 1, 4, 4).rows("mmmm");
+        odd.fault("tktt", 0, 4, 0);
+        odd.fault("kktt", 0, 4, 2);
+        odd.fault("lr", 0, 4, 0);
+        odd.fault("rl", 0, 4, 0);
+        odd.rows("mtkk");
     }
 
     private static void tooFar() {
